@@ -479,7 +479,7 @@ public final class ConicKinds {
                 return clearDivisor(first, 3) ? 1 : 0;
             case CROSSING_LINES:
             case PARALLEL_LINES:
-                return splitLines() ? 2 : 0;
+                return joinLines() && readLines() ? 2 : 0;
             default:
                 return 0;
         }
@@ -491,11 +491,10 @@ public final class ConicKinds {
 
     /**
      * ALL is a b' + b a' for two lines a, b, and its adjugate -p p' with p = a x b. Adding the
-     * table that multiplies crosswise by p leaves 2 a b' or 2 b a', which shows a line in each of
-     * its rows, and the other in each of its columns. p is whole just where the lines have rows
-     * of whole numbers.
+     * table that multiplies crosswise by p leaves 2 a b' or 2 b a'; work gets a multiple of that.
+     * p is whole just where the lines have rows of whole numbers: false where it is not.
      */
-    private boolean splitLines() {
+    private boolean joinLines() {
         table.load(form, 0, 2);
         int k = 0;
         while (k < 2 && table.adjugate(k, k) == 0) {
@@ -511,7 +510,7 @@ public final class ConicKinds {
             }
         }
         addCrosswise(table.adjugate(k, 0), table.adjugate(k, 1), table.adjugate(k, 2));
-        return readLines();
+        return true;
     }
 
     /** The root of a square from 1 on; 0 where there is none. */
@@ -533,6 +532,7 @@ public final class ConicKinds {
         work[place(2, 1)] += p0;
     }
 
+    /** As work is a multiple of a b', its rows are multiples of the one line, its columns of the other. */
     private boolean readLines() {
         for (int i = 0; i < 3; i++) {
             for (int j = 0; j < 3; j++) {

@@ -51,7 +51,7 @@ public final class FaceTest {
     private static void checkConstructor() {
         Constructor<?>[] all = ConicKinds.class.getDeclaredConstructors();
         Checks.due("constructors", all.length, 1);
-        Checks.holds("its constructor is public, without parameters and throws",
+        Checks.holds("its constructor is public, without parameters and exceptions",
                 Modifier.isPublic(all[0].getModifiers()) && all[0].getParameterCount() == 0
                 && all[0].getExceptionTypes().length == 0);
     }
