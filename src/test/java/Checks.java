@@ -6,6 +6,7 @@ final class Checks {
 
     private static int wrong = 0;
     private static int done = 0;
+    private static String inCase = "";
 
     private Checks() {
     }
@@ -15,9 +16,18 @@ final class Checks {
         if (got != want) {
             wrong++;
             if (wrong <= 50) {
-                System.out.println(what + " answered " + got + ", due is " + want);
+                System.out.println(inCase + what + " answered " + got + ", due is " + want);
             }
         }
+    }
+
+    /** From now on wrong answers are told with this name before them. */
+    static void begin(String name) {
+        inCase = name + ": ";
+    }
+
+    static int countDone() {
+        return done;
     }
 
     static void holds(String what, boolean truth) {
@@ -53,6 +63,11 @@ final class Checks {
         if (k != m.length) {
             throw new IllegalArgumentException("a form of " + m.length + " numbers");
         }
+    }
+
+    /** Of d = 2 with six numbers, of d = 3 with ten. */
+    static ConicKinds make(int... m) {
+        return m.length == 6 ? plane(m) : space(m);
     }
 
     static ConicKinds plane(int... m) {

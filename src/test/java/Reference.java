@@ -15,6 +15,20 @@ final class Reference {
     private Reference() {
     }
 
+    /** The table of a form whose numbers are told as 00, 01, .., 0d, 11, .., dd. */
+    static long[][] table(int[] m) {
+        int d = m.length == 6 ? 2 : 3;
+        long[][] t = new long[d + 1][d + 1];
+        int k = 0;
+        for (int i = 0; i <= d; i++) {
+            for (int j = i; j <= d; j++) {
+                t[i][j] = m[k];
+                t[j][i] = m[k++];
+            }
+        }
+        return t;
+    }
+
     static BigInteger[][] big(long[][] m) {
         BigInteger[][] b = new BigInteger[m.length][m.length];
         for (int i = 0; i < m.length; i++) {

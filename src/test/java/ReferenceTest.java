@@ -85,21 +85,9 @@ public final class ReferenceTest {
         return m;
     }
 
-    private static long[][] table(int d, int[] m) {
-        long[][] t = new long[d + 1][d + 1];
-        int k = 0;
-        for (int i = 0; i <= d; i++) {
-            for (int j = i; j <= d; j++) {
-                t[i][j] = m[k];
-                t[j][i] = m[k++];
-            }
-        }
-        return t;
-    }
-
     private static void checkForm(int d, int[] m) {
-        ConicKinds conic = d == 2 ? Checks.plane(m) : Checks.space(m);
-        long[][] t = table(d, m);
+        ConicKinds conic = Checks.make(m);
+        long[][] t = Reference.table(m);
         String name = Arrays.toString(m) + " ";
         int kind = Reference.kind(t);
         seenKinds[kind] = true;
