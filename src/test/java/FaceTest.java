@@ -2,6 +2,8 @@ import java.lang.reflect.Constructor;
 import java.lang.reflect.Field;
 import java.lang.reflect.Method;
 import java.lang.reflect.Modifier;
+import java.nio.file.Files;
+import java.nio.file.Path;
 import java.util.Arrays;
 import java.util.Set;
 import java.util.TreeSet;
@@ -29,6 +31,12 @@ public final class FaceTest {
         "int alike()",
     };
 
+    // What the interface says ahead of some calls, with the first of these calls.
+    private static final String[][] HEADINGS = {
+        {"middles", "middles()"}, {"values of A", "below("}, {"points, polars", "at("},
+        {"cuts", "section("}, {"another form", "keep()"},
+    };
+
     public static void main(String[] args) throws Exception {
         Checks.holds("public and final",
                 Modifier.isPublic(ConicKinds.class.getModifiers())
@@ -39,6 +47,7 @@ public final class FaceTest {
         checkConstructor();
         checkMethods();
         checkFields();
+        checkHeadings();
         for (Class<?> inside : ConicKinds.class.getDeclaredClasses()) {
             Checks.holds(inside + " is static and not public",
                     Modifier.isStatic(inside.getModifiers())
@@ -103,5 +112,13 @@ public final class FaceTest {
         Checks.holds("NOTHING is a static long",
                 Modifier.isStatic(nothing.getModifiers()) && nothing.getType() == long.class);
         Checks.due("NOTHING", ConicKinds.NOTHING, Checks.NOTHING);
+    }
+
+    private static void checkHeadings() throws Exception {
+        String source = Files.readString(Path.of("src/main/java/ConicKinds.java"));
+        for (String[] heading : HEADINGS) {
+            Checks.holds("ahead of " + heading[1] + " it says " + heading[0],
+                    source.contains("    // ---- " + heading[0] + "\n\n    public int " + heading[1]));
+        }
     }
 }

@@ -1,6 +1,7 @@
 import java.math.BigInteger;
+import java.util.Arrays;
 
-/** The same answers found in other ways, with numbers of any length, for ReferenceTest. */
+/** The same answers found in other ways, with numbers of any length, for Model. */
 final class Reference {
     // The table of the document, word for word.
     private static final String PLANE =
@@ -271,6 +272,71 @@ final class Reference {
             return 1;
         }
         return Long.signum(twiceB * twiceB - 8 * twiceA * c) + 1;
+    }
+
+    /** All numbers of a table in one row. */
+    static long[] flat(long[][] m) {
+        long[] row = new long[m.length * m.length];
+        for (int i = 0; i < m.length; i++) {
+            System.arraycopy(m[i], 0, row, m.length * i, m.length);
+        }
+        return row;
+    }
+
+    /** The rows of the lines of a form of d = 2, in their order; none where there are no such rows. */
+    static long[][] lines(long[][] m) {
+        switch (kind(m)) {
+            case 7: return new long[][] {clear(new long[] {m[0][0], 2 * m[0][1], 2 * m[0][2]})};
+            case 9: return new long[][] {clear(twoLines(m)[0])};
+            case 5: case 6: return inOrder(twoLines(m));
+            default: return new long[0][];
+        }
+    }
+
+    /** With A not all 0: by the way to solve for x, or for y where there is no square of x. */
+    private static long[][] twoLines(long[][] m) {
+        if (m[1][1] != 0) {
+            return solved(m, 1, 2);
+        }
+        if (m[2][2] != 0) {
+            return solved(m, 2, 1);
+        }
+        return new long[][] {{m[0][2], m[1][2], 0}, {m[0][1], 0, m[1][2]}};
+    }
+
+    /**
+     * The form times m(p, p) is the square of (m(0, p) + m(p, p) xp + m(q, p) xq) less the square
+     * of some s + t xq.
+     */
+    private static long[][] solved(long[][] m, int p, int q) {
+        long s = root(m[0][p] * m[0][p] - m[p][p] * m[0][0]);
+        long t = root(m[q][p] * m[q][p] - m[p][p] * m[q][q]);
+        if (s < 0 || t < 0) {
+            return new long[0][];
+        }
+        t = s * t == m[0][p] * m[q][p] - m[p][p] * m[0][q] ? t : -t;
+        long[][] rows = new long[2][3];
+        for (int k = 0; k < 2; k++) {
+            int sign = 1 - 2 * k;
+            rows[k][0] = m[0][p] + sign * s;
+            rows[k][p] = m[p][p];
+            rows[k][q] = m[q][p] + sign * t;
+        }
+        return rows;
+    }
+
+    /** -1 where the number is not the square of a whole one. */
+    private static long root(long square) {
+        long root = Math.round(Math.sqrt(square));
+        return root * root == square ? root : -1;
+    }
+
+    private static long[][] inOrder(long[][] rows) {
+        for (int k = 0; k < rows.length; k++) {
+            rows[k] = clear(rows[k]);
+        }
+        Arrays.sort(rows, Arrays::compare);
+        return rows;
     }
 
     /** The row without a common divisor, the first that is not 0 above 0; null if all is 0. */

@@ -4,17 +4,17 @@ import java.util.HashMap;
 import java.util.List;
 import java.util.Map;
 
-/** All small forms of dimension 2, and many forms of both, against Reference. */
+/** All small forms of dimension 2, and many forms of both, each on an object of its own. */
 public final class ReferenceTest {
     private static final long NOTHING = Checks.NOTHING;
 
-    private static long seed = 20261115L;
-    private static final boolean[] seenKinds = new boolean[27];
-    private static final boolean[] seenSections = new boolean[10];
+    private static final Numbers NUMBERS = new Numbers(20261115L);
+    private static final boolean[] SEEN_KINDS = new boolean[27];
+    private static final boolean[] SEEN_SECTIONS = new boolean[10];
 
     public static void main(String[] args) {
-        smallPlaneForms();
-        smallSpaceForms();
+        smallForms(2, 5, 1);
+        smallForms(3, 3, 5);
         mixedForms(2, 4000);
         mixedForms(3, 12000);
         linesByMultiplying();
@@ -22,245 +22,119 @@ public final class ReferenceTest {
         Checks.end();
     }
 
-    /** A row of numbers that is the same each time; low .. high. */
-    private static int next(int low, int high) {
-        seed = seed * 6364136223846793005L + 1442695040888963407L;
-        return low + (int) ((seed >>> 33) % (high - low + 1));
-    }
-
-    private static void smallPlaneForms() {
-        int[] m = new int[6];
-        for (int code = 0; code < 15625; code++) {
-            int rest = code;
-            for (int i = 0; i < 6; i++) {
-                m[i] = rest % 5 - 2;
-                rest /= 5;
-            }
-            checkForm(2, m);
+    /** One in so many of all forms whose numbers have so many values. */
+    private static void smallForms(int d, int values, int step) {
+        int count = (int) Math.pow(values, Numbers.count(d));
+        for (int code = 0; code < count; code += step) {
+            checkForm(d, smallForm(Numbers.count(d), values, code));
         }
     }
 
-    private static void smallSpaceForms() {
-        int[] m = new int[10];
-        for (int code = 0; code < 59049; code += 5) {
-            int rest = code;
-            for (int i = 0; i < 10; i++) {
-                m[i] = rest % 3 - 1;
-                rest /= 3;
-            }
-            checkForm(3, m);
-        }
-    }
-
-    /** Full range, sparse, and sums of a few squares of rows, which bring the singular kinds. */
-    private static void mixedForms(int d, int count) {
-        int numbers = (d + 1) * (d + 2) / 2;
-        for (int n = 0; n < count; n++) {
-            int[] m = new int[numbers];
-            if (n % 3 == 2) {
-                m = sumOfSquares(d, next(1, 3), next(1, 2));
-            }
-            for (int i = 0; i < numbers && n % 3 != 2; i++) {
-                m[i] = n % 3 == 0 || next(0, 2) == 0 ? next(-20, 20) : 0;
-            }
-            checkForm(d, m);
-        }
-    }
-
-    private static int[] sumOfSquares(int d, int squares, int size) {
-        int[] m = new int[(d + 1) * (d + 2) / 2];
-        for (int s = 0; s < squares; s++) {
-            int factor = next(0, 1) == 0 ? 1 : -1;
-            int[] row = new int[d + 1];
-            for (int i = 0; i <= d; i++) {
-                row[i] = next(-size, size);
-            }
-            int k = 0;
-            for (int i = 0; i <= d; i++) {
-                for (int j = i; j <= d; j++) {
-                    m[k++] += factor * row[i] * row[j];
-                }
-            }
+    private static int[] smallForm(int numbers, int values, int code) {
+        int[] m = new int[numbers];
+        int rest = code;
+        for (int i = 0; i < numbers; i++) {
+            m[i] = rest % values - values / 2;
+            rest /= values;
         }
         return m;
     }
 
+    private static void mixedForms(int d, int count) {
+        for (int n = 0; n < count; n++) {
+            checkForm(d, NUMBERS.form(d));
+        }
+    }
+
     private static void checkForm(int d, int[] m) {
-        ConicKinds conic = Checks.make(m);
-        long[][] t = Reference.table(m);
-        String name = Arrays.toString(m) + " ";
-        int kind = Reference.kind(t);
-        seenKinds[kind] = true;
-        Checks.due(name + "kind", conic.kind(), kind);
-        Checks.due(name + "keep", conic.keep(), kind);
-        int[] a = Reference.signs(Reference.partA(t));
-        int[] all = Reference.signs(t);
-        Checks.due(name + "signs(0)", conic.signs(0), a[0]);
-        Checks.due(name + "signs(1)", conic.signs(1), a[1]);
-        Checks.due(name + "signs(2)", conic.signs(2), all[0]);
-        Checks.due(name + "signs(3)", conic.signs(3), all[1]);
-        checkDeterminants(name, conic, t);
-        checkMiddles(name, conic, t);
-        Checks.due(name + "unlike", conic.unlike(), Reference.unlike(Reference.partA(t)));
+        Twin twin = Twin.with(m);
+        SEEN_KINDS[(int) twin.ask("kind")] = true;
+        twin.ask("keep");
+        for (int what = 0; what <= 3; what++) {
+            twin.ask("signs", what);
+            twin.ask("determinant", what);
+        }
+        twin.ask("unlike");
+        checkMiddles(twin, d);
         for (int n = 0; n < 4; n++) {
-            checkBelow(name, conic, t);
-            checkPoint(name, conic, t);
-            checkTouches(name, conic, t);
-            checkMeets(name, conic, t);
-            checkSection(name, conic, t);
+            checkBelow(twin);
+            checkPoint(twin, d);
+            checkTouches(twin);
+            checkMeets(twin);
+            checkSection(twin);
         }
-        checkAlike(name, conic, d, m);
-    }
-
-    private static void checkDeterminants(String name, ConicKinds conic, long[][] t) {
-        int d = t.length - 1;
-        long sum = 0;
-        long pairs = 0;
-        for (int i = 1; i <= d; i++) {
-            sum += t[i][i];
-            for (int j = i + 1; j <= d; j++) {
-                pairs += t[i][i] * t[j][j] - t[i][j] * t[i][j];
+        for (int k = 0; k <= 1; k++) {
+            for (int i = 0; i <= 2; i++) {
+                twin.ask("line", k, i);
             }
         }
-        Checks.due(name + "determinant(0)", conic.determinant(0), Reference.determinant(Reference.partA(t)));
-        Checks.due(name + "determinant(1)", conic.determinant(1), Reference.determinant(t));
-        Checks.due(name + "determinant(2)", conic.determinant(2), sum);
-        Checks.due(name + "determinant(3)", conic.determinant(3), pairs);
+        checkAlike(twin, m);
     }
 
-    private static void checkMiddles(String name, ConicKinds conic, long[][] t) {
-        int d = t.length - 1;
-        int middles = Reference.middles(t);
-        Checks.due(name + "middles", conic.middles(), middles);
-        if (middles != 0) {
-            for (int axis = 1; axis <= d; axis++) {
-                Checks.due(name + "middle", conic.middle(axis, 0), NOTHING);
-                Checks.due(name + "middle", conic.middle(axis, 1), NOTHING);
-            }
-            Checks.dueArithmetic(name + "height", () -> conic.height(0));
-            return;
-        }
-        long down = Reference.determinant(Reference.partA(t));
+    private static void checkMiddles(Twin twin, int d) {
+        boolean onlyOne = twin.ask("middles") == 0;
+        double value = twin.model.number(0, 0);
         for (int axis = 1; axis <= d; axis++) {
-            // Cramer: the column of the axis gives way to what stands on the right.
-            long[][] changed = Reference.partA(t);
-            for (int i = 1; i <= d; i++) {
-                changed[i - 1][axis - 1] = -t[i][0];
-            }
-            dueFraction(name + "middle " + axis, Reference.determinant(changed), down,
-                    conic.middle(axis, 0), conic.middle(axis, 1));
+            double up = twin.ask("middle", axis, 0);
+            value += twin.model.number(0, axis) * up / twin.ask("middle", axis, 1);
         }
-        dueFraction(name + "height", Reference.determinant(t), down, conic.height(0), conic.height(1));
-        checkHeightAtMiddle(name, conic, t);
+        double up = twin.ask("height", 0);
+        double height = up / twin.ask("height", 1);
+        Checks.holds("height is the form at the middle", !onlyOne
+                || Math.abs(value - height) <= 1e-6 * (1 + Math.abs(height) + 20 * Math.abs(value)));
     }
 
-    private static void dueFraction(String name, long up, long down, long gotUp, long gotDown) {
-        long[] row = Reference.clear(new long[] {down, up});
-        Checks.due(name + " above", gotUp, row[1]);
-        Checks.due(name + " below", gotDown, row[0]);
+    private static void checkBelow(Twin twin) {
+        int down = NUMBERS.oneIn(4) ? NUMBERS.next(1, 100) : NUMBERS.next(1, 3);
+        int up = NUMBERS.oneIn(4) ? NUMBERS.next(-2000, 2000) : NUMBERS.next(-25, 25) * down;
+        twin.ask("below", up, down);
     }
 
-    private static void checkHeightAtMiddle(String name, ConicKinds conic, long[][] t) {
-        double value = t[0][0];
-        for (int i = 1; i < t.length; i++) {
-            value += (double) t[i][0] * conic.middle(i, 0) / conic.middle(i, 1);
+    private static void checkPoint(Twin twin, int d) {
+        int size = NUMBERS.oneIn(3) ? 1000 : 3;
+        int[] p = draw(3, size);
+        int down = NUMBERS.oneIn(3) ? NUMBERS.next(1, 100) : NUMBERS.next(1, 2);
+        twin.ask("at", p[0], p[1], p[2], down);
+        for (int i = 0; i <= d + 1; i++) {
+            twin.ask("polar", p[0], p[1], p[2], down, i);
         }
-        double height = (double) conic.height(0) / conic.height(1);
-        Checks.holds(name + "height is the form at the middle",
-                Math.abs(value - height) <= 1e-6 * (1 + Math.abs(height) + 20 * Math.abs(value)));
     }
 
-    private static void checkBelow(String name, ConicKinds conic, long[][] t) {
-        int down = next(0, 3) == 0 ? next(1, 100) : next(1, 3);
-        int up = next(0, 3) == 0 ? next(-2000, 2000) : next(-25, 25) * down;
-        long[][] a = Reference.partA(t);
-        for (int i = 0; i < a.length; i++) {
-            for (int j = 0; j < a.length; j++) {
-                a[i][j] = a[i][j] * down - (i == j ? up : 0);
-            }
-        }
-        Checks.due(name + "below " + up + " / " + down,
-                conic.below(up, down), (up < -2000 || up > 2000) ? -2 : Reference.signs(a)[1]);
+    private static void checkTouches(Twin twin) {
+        twin.ask("touches", draw(4, NUMBERS.oneIn(3) ? 20 : 2));
     }
 
-    private static void checkPoint(String name, ConicKinds conic, long[][] t) {
-        int size = next(0, 2) == 0 ? 1000 : 3;
-        int x = next(-size, size);
-        int y = next(-size, size);
-        int z = next(-size, size);
-        int down = next(0, 2) == 0 ? next(1, 100) : next(1, 2);
-        long[] p = Arrays.copyOf(new long[] {down, x, y, z}, t.length);
-        Checks.due(name + "at", conic.at(x, y, z, down), Long.signum(Reference.product(t, p, p)) + 1);
-        long[] row = new long[t.length];
-        for (int i = 0; i < t.length; i++) {
-            for (int j = 0; j < t.length; j++) {
-                row[i] += t[i][j] * p[j];
-            }
-        }
-        long[] clear = Reference.clear(row);
-        for (int i = 0; i < t.length; i++) {
-            Checks.due(name + "polar", conic.polar(x, y, z, down, i), clear == null ? NOTHING : clear[i]);
-        }
-        Checks.due(name + "polar", conic.polar(x, y, z, down, t.length), NOTHING);
+    private static void checkMeets(Twin twin) {
+        twin.ask("meets", draw(6, NUMBERS.oneIn(3) ? 20 : 2));
     }
 
-    private static void checkTouches(String name, ConicKinds conic, long[][] t) {
-        int size = next(0, 2) == 0 ? 20 : 2;
-        int[] u = {next(-size, size), next(-size, size), next(-size, size), next(-size, size)};
-        long[] row = Arrays.copyOf(new long[] {u[0], u[1], u[2], u[3]}, t.length);
-        long[] tail = Arrays.copyOfRange(row, 1, row.length);
-        long want = -2;
-        if (Reference.clear(tail) != null) {
-            want = Reference.determinant(t) == 0 ? -3 : Reference.touches(t, row);
+    private static void checkSection(Twin twin) {
+        long kind = twin.ask("section", draw(4, NUMBERS.oneIn(3) ? 10 : 1));
+        if (kind >= 0) {
+            SEEN_SECTIONS[(int) kind] = true;
         }
-        Checks.due(name + "touches " + Arrays.toString(u), conic.touches(u[0], u[1], u[2], u[3]), want);
     }
 
-    private static void checkMeets(String name, ConicKinds conic, long[][] t) {
-        int size = next(0, 2) == 0 ? 20 : 2;
-        int[] p = {next(-size, size), next(-size, size), next(-size, size)};
-        int[] s = {next(-size, size), next(-size, size), next(-size, size)};
-        long[] point = Arrays.copyOf(new long[] {1, p[0], p[1], p[2]}, t.length);
-        long[] step = Arrays.copyOf(new long[] {0, s[0], s[1], s[2]}, t.length);
-        long want = Reference.clear(step) == null ? -2 : Reference.meets(t, point, step);
-        Checks.due(name + "meets " + Arrays.toString(p) + Arrays.toString(s),
-                conic.meets(p[0], p[1], p[2], s[0], s[1], s[2]), want);
+    private static int[] draw(int count, int size) {
+        int[] drawn = new int[count];
+        for (int i = 0; i < count; i++) {
+            drawn[i] = NUMBERS.next(-size, size);
+        }
+        return drawn;
     }
 
-    private static void checkSection(String name, ConicKinds conic, long[][] t) {
-        int size = next(0, 2) == 0 ? 10 : 1;
-        int[] n = {next(-size, size), next(-size, size), next(-size, size)};
-        int e = next(-size, size);
-        long want = -3;
-        if (t.length == 4) {
-            long[] normal = {n[0], n[1], n[2]};
-            want = Reference.clear(normal) == null ? -2 : Reference.section(t, normal, e);
-        }
-        if (want >= 0) {
-            seenSections[(int) want] = true;
-        }
-        Checks.due(name + "section " + Arrays.toString(n) + " " + e,
-                conic.section(n[0], n[1], n[2], e), want);
-    }
-
-    private static void checkAlike(String name, ConicKinds conic, int d, int[] m) {
-        Checks.due(name + "alike itself", conic.alike(), 1);
-        boolean isZero = Arrays.equals(m, new int[m.length]);
+    private static void checkAlike(Twin twin, int[] m) {
+        twin.ask("alike");
         int[] turned = new int[m.length];
         for (int i = 0; i < m.length; i++) {
             turned[i] = -m[i];
         }
-        Checks.fill(conic, d, turned);
-        Checks.due(name + "alike its negative", conic.alike(), 1);
-        int k = next(0, m.length - 1);
+        twin.fill(turned);
+        twin.ask("alike");
+        int k = NUMBERS.next(0, m.length - 1);
         turned[k] += turned[k] == 20 ? -1 : 1;
-        boolean alone = true;
-        for (int i = 0; i < m.length; i++) {
-            alone &= i == k || m[i] == 0;
-        }
-        Checks.fill(conic, d, turned);
-        long want = !isZero && alone && m[k] != 0 && turned[k] != 0 ? 1 : 0;
-        Checks.due(name + "alike, one changed", conic.alike(), want);
+        twin.fill(turned);
+        twin.ask("alike");
     }
 
     /**
@@ -277,13 +151,7 @@ public final class ReferenceTest {
             }
         }
         for (int code = 0; code < 15625; code++) {
-            int rest = code;
-            int[] m = new int[6];
-            for (int i = 0; i < 6; i++) {
-                m[i] = rest % 5 - 2;
-                rest /= 5;
-            }
-            checkLines(m, pairs);
+            checkLines(smallForm(6, 5, code), pairs);
         }
         for (long[][] pair : pairs.values()) {
             int[] m = asForm(multiply(pair[0], pair[1]));
@@ -350,11 +218,11 @@ public final class ReferenceTest {
     }
 
     private static void checkSeen() {
-        for (int kind = 0; kind < seenKinds.length; kind++) {
-            Checks.holds("the forms looked at have kind " + kind, seenKinds[kind]);
+        for (int kind = 0; kind < SEEN_KINDS.length; kind++) {
+            Checks.holds("the forms looked at have kind " + kind, SEEN_KINDS[kind]);
         }
-        for (int kind = 0; kind < seenSections.length; kind++) {
-            Checks.holds("the sections looked at have kind " + kind, seenSections[kind]);
+        for (int kind = 0; kind < SEEN_SECTIONS.length; kind++) {
+            Checks.holds("the sections looked at have kind " + kind, SEEN_SECTIONS[kind]);
         }
     }
 }
